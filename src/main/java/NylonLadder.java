@@ -33,9 +33,7 @@ public final class NylonLadder {
     private final Drawer tried = new Drawer();
     private final Stocking begun = new Stocking();
 
-    private final int[] tape = new int[MOST_BYTES];
-    private int fed = 0;
-    private final Text text = new Text(tape, tried);
+    private final Tape tape = new Tape();
     private final int[][] rows = new int[MOST_LEGS][3];
     private int rowCount = 0;
     private final Sheet[] sheets = new Sheet[SHEETS];
@@ -52,24 +50,23 @@ public final class NylonLadder {
         if (!isWithin(n, 1, 8)) {
             return BAD;
         }
-        if (fed + n > MOST_BYTES) {
+        if (tape.length + n > MOST_BYTES) {
             return FULL;
         }
         for (int i = 0; i < n; i++) {
-            tape[fed + i] = (int) (eight >>> (8 * i)) & 255;
+            tape.addByte((int) (eight >>> (8 * i)) & 255);
         }
-        fed += n;
-        return fed;
+        return tape.length;
     }
 
     public int drawer() {
-        int fault = text.faultOf(fed);
-        fed = 0;
+        int fault = tape.faultOf();
+        tape.length = 0;
         if (fault >= 0) {
             return -100 - fault;
         }
-        tried.z = now.z;
-        now.become(tried);
+        tape.told.z = now.z;
+        now.become(tape.told);
         rowCount = 0;
         return now.count;
     }
@@ -91,12 +88,7 @@ public final class NylonLadder {
         if (!isKind(kind) || !isA(a) || !isWithin(shade, 0, 3) || !isWithin(lasts, 1, 30)) {
             return BAD;
         }
-        if (now.count >= MOST_STOCKINGS) {
-            return FULL;
-        }
-        now.stockings[now.count].begin(kind, a, shade, lasts);
-        now.count++;
-        return now.count - 1;
+        return now.addStocking(kind, a, shade, lasts) ? now.count - 1 : FULL;
     }
 
     public int of(int stocking, int what) {
@@ -661,7 +653,7 @@ public final class NylonLadder {
             case 2: return now.ladders();
             case 3: return now.dabsOfAll();
             case 4: return rowCount;
-            case 5: return fed;
+            case 5: return tape.length;
             case 6: return bodiesKept();
             default: return BAD;
         }
@@ -766,11 +758,9 @@ public final class NylonLadder {
         }
         int dry = now.laws[DRY];
         on.passWay(way, 0, i, now.laws);
-        int ahead = on.low - 1;
-        int behind = on.high + 1;
         // Where a dab can't be it is refused, and that is all.
-        on.addDab(ahead, dry);
-        on.addDab(behind, dry);
+        on.addDab(on.low - 1, dry);
+        on.addDab(on.high + 1, dry);
         on.stand(dry);
         on.passWay(way, i, way.count, now.laws);
         return on.openRungs();
@@ -835,6 +825,15 @@ public final class NylonLadder {
 
         Stocking stockingAt(int stocking) {
             return isWithin(stocking, 0, count - 1) ? stockings[stocking] : null;
+        }
+
+        boolean addStocking(int kind, int a, int shade, int lasts) {
+            if (count >= MOST_STOCKINGS) {
+                return false;
+            }
+            stockings[count].begin(kind, a, shade, lasts);
+            count++;
+            return true;
         }
 
         Way wayAt(int way) {
@@ -1128,7 +1127,7 @@ public final class NylonLadder {
 
         private int byKind(int asPlain) {
             switch (kind) {
-                case SHEER: return 2 * asPlain;
+                case SHEER:
                 case MESH: return 2 * asPlain;
                 case THICK: return 0;
                 case LINED: return Math.min(a, asPlain);
@@ -1205,12 +1204,13 @@ public final class NylonLadder {
         }
     }
 
-    /** Reads the tape's text into a drawer, and is done with at the first fault. */
-    private static final class Text {
+    /** Takes bytes and reads their text into a drawer of its own, up to the first fault. */
+    private static final class Tape {
         private static final int END = 0, BLANK = 1, NAME = 2, NUMBER = 3, SIGN = 4;
 
-        private final int[] bytes;
-        private final Drawer told;
+        private final int[] bytes = new int[MOST_BYTES];
+        int length = 0;
+        final Drawer told = new Drawer();
         /** The tokens: their sorts, the places of their first bytes and those behind their last. */
         private final int[] sorts = new int[MOST_BYTES + 1];
         private final int[] starts = new int[MOST_BYTES + 1];
@@ -1221,14 +1221,16 @@ public final class NylonLadder {
         /** -1 as long as there is none; behind the first one nothing is taken any more. */
         private int fault = -1;
 
-        Text(int[] bytes, Drawer told) {
-            this.bytes = bytes;
-            this.told = told;
+        void addByte(int added) {
+            if (length < MOST_BYTES) {
+                bytes[length] = added;
+                length++;
+            }
         }
 
         /** The place of the fault, or -1: then all is told. */
-        int faultOf(int length) {
-            part(Math.min(length, bytes.length));
+        int faultOf() {
+            part();
             told.empty();
             at = 0;
             fault = -1;
@@ -1238,7 +1240,7 @@ public final class NylonLadder {
             return fault;
         }
 
-        private void part(int length) {
+        private void part() {
             count = 0;
             int place = 0;
             while (place < length) {
@@ -1348,12 +1350,10 @@ public final class NylonLadder {
                 high = takeNumber(low, LAST_RUNG);
             }
             take(isSign(';'));
-            if (fault < 0) {
-                Stocking stocking = told.stockings[told.count];
-                stocking.begin(kind, a, shade, lasts);
-                stocking.low = low;
-                stocking.high = high;
-                told.count++;
+            if (fault < 0 && told.addStocking(kind, a, shade, lasts)) {
+                Stocking added = told.stockings[told.count - 1];
+                added.low = low;
+                added.high = high;
             }
         }
 

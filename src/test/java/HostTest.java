@@ -217,6 +217,8 @@ public final class HostTest {
         acted(x, "mesh runs", x.act(0, 0, 7), 7, 51, 10);
         acted(x, "mesh dries", x.act(0, 1, 7), 6, 20, 11, 51, 10);
         acted(x, "mesh holds", x.act(0, 2, 9), 2 ^ 1, 50, 12);
+        acted(x, "mesh holds", x.act(0, 2, 12), 2 ^ 1, 50, 12);
+        acted(x, "mesh holds", x.act(0, 2, 13), 3 ^ 1, 50, 12);
         acted(x, "mesh tells", x.act(0, 3, 7), 6 ^ 8, 13, 20, 11, 51, 10);
         x.shelf(0, 0, 4);
         acted(x, "lined runs", x.act(0, 0, 7), -33, 40, 30, 10);

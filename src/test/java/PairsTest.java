@@ -191,7 +191,19 @@ public final class PairsTest {
         Check.due("two draws", x.seed(1), second);
         Check.due("the RUNG", x.of(0, 6), (second >>> 16) % 100);
         x.mend(0);
+        // SNAG is the first number that a draw may leave by 10 without a second one.
+        int left = (1103527590 >>> 16) % 10;
+        x.set(7, left);
+        x.seed(1);
+        x.day();
+        Check.due("one draw", x.seed(1), 1103527590);
+        x.set(7, left + 1);
+        x.day();
+        Check.due("two draws", x.seed(1), second);
+        Check.due("LADDERS", x.many(2), 1);
+        x.mend(0);
         // A z below 0 is drawn from as from one above.
+        x.set(7, 10);
         x.seed(-77);
         x.day();
         int drawn = (-77 * 1103515245 + 12345) * 1103515245 + 12345;
@@ -200,7 +212,8 @@ public final class PairsTest {
 
     private static void livesDays() {
         NylonLadder x = Check.of("sheer 0 shade 0 lasts 9; plain 0 shade 1 lasts 9; plain 0 shade 0 lasts 9;"
-                + "plain 0 shade 1 lasts 2 ladder 99 to 99; plain 0 shade 1 lasts 9; right 0; go steps 3; cab stairs 9;");
+                + "plain 0 shade 1 lasts 2 ladder 99 to 99; plain 0 shade 1 lasts 9; right 0;"
+                + "go steps 1, steps 2; cab stairs 9;");
         x.set(7, 0);
         x.dab(1, 5);
         Check.due("day", x.day(), 1);

@@ -128,6 +128,7 @@ public final class TextTest {
         right("   ", 0);
         right(" plain  1 shade 02   lasts 03 ladder 04 to 04 ;  ", 1);
         right("step 0;bend 00;go steps 1,stairs 01 , sits 60;", 0);
+        right("plain1shade2lasts3ladder4to5;left0;go steps1,sits2;", 1);
         fault("plain\t1 shade 0 lasts 1;", 5);
         fault("step 1\n;", 6);
         fault("gosteps 1;", 0);
@@ -146,6 +147,7 @@ public final class TextTest {
             fault(text.substring(0, end) + "  ", end + 2);
         }
         fault("silk 1 shade 2 lasts 3;", 0);
+        fault("xlain 1 shade 2 lasts 3;", 0);
         fault("plains 1 shade 2 lasts 3;", 0);
         fault("plai 1 shade 2 lasts 3;", 0);
         fault("plain 10 shade 2 lasts 3;", 6);
@@ -198,6 +200,8 @@ public final class TextTest {
         fault("go steps 1,", 11);
         fault("cab stands;", 10);
         fault("cab sit 3;", 4);
+        fault("cab xteps 3;", 4);
+        fault("Cab steps 3;", 0);
         fault("cab stair 3;", 4);
         fault("cab stand 3;", 4);
     }
