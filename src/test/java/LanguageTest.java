@@ -8,7 +8,7 @@ import javax.tools.*;
 
 /**
  * The rules of ../shared/LANGUAGE.md, as far as the compiler's own tree can tell them.
- * The first argument is the file that they bind.
+ * The first argument is the file that they bind; without one, it is looked for from the root of the checkout.
  */
 public final class LanguageTest {
     private static final int MOST_LINES = 60, MOST_PARAMETERS = 7, MOST_CLASSES = 12, MOST_FIELDS = 20, MOST_DEEP = 8;
@@ -33,7 +33,7 @@ public final class LanguageTest {
 
     public static void main(String[] args) throws Exception {
         LanguageTest test = new LanguageTest();
-        test.read(new File(args[0]));
+        test.read(new File(args.length > 0 ? args[0] : "src/main/java/NylonLadder.java"));
         test.checkFace();
         test.checkTree();
         test.checkDepths();
